@@ -18,6 +18,7 @@ public final class AnswersTest {
         late();
         lateRowsSideBySide();
         daysAtEnd();
+        roundedCost();
         CHECKS.close("AnswersTest");
     }
 
@@ -214,6 +215,20 @@ public final class AnswersTest {
         rows(desk, new long[][] {{0, 496, 3, 100, 99}, {1, 497, 2, 100, 99}, {2, 498, 1, 100, 99}});
         CHECKS.due("COST of what is DUE on END", desk.period(3, 6), 0);
         CHECKS.due("UNPAID of it", desk.unpaid(3, 499), 100);
+    }
+
+    private static void roundedCost() {
+        // The rate holds on the DUE of INSTALMENT 0 alone: 11111 times 9 is one short of 100,000.
+        String text = "year 44444 0 5;period 2 1;period 3 2;period 4 3;period 5 4;share 0 100;rate 2 9;rate 3 0;";
+        InstalmentDesk desk = Checks.told(text);
+        desk.bar(0);
+        desk.bar(2);
+        CHECKS.due("one short", desk.period(0, 6), 0);
+        desk = Checks.told(text.replace("44444", "40000").replace("2 9;", "2 10;"));
+        desk.bar(0);
+        desk.bar(2);
+        CHECKS.due("just as much", desk.period(0, 6), 1);
+        CHECKS.due("COSTS", desk.now(4), 1);
     }
 
     private static void rows(InstalmentDesk desk, long[][] due) {

@@ -33,8 +33,8 @@ public final class TextTest {
         CHECKS.due("new: rate", desk.rate(499), 0);
         CHECKS.due("new: fault", desk.fault(), 0);
         CHECKS.due("new: undo", desk.undo(), -1);
-        CHECKS.due("new: refund behind END 0", desk.refund(1, 1), -1);
         CHECKS.due("new: pay", desk.pay(0, 70), 0);
+        CHECKS.due("new: refund behind END 0", desk.refund(1, 1), -1);
         CHECKS.due("new: refund on END", desk.refund(0, 30), 40);
         CHECKS.due("new: earn", desk.earn(0, 10), 10);
         CHECKS.due("new: YEARLY by CUT 0", desk.period(3, 9), 3650);
@@ -111,6 +111,19 @@ public final class TextTest {
         bad("year;", 1, 4);
         bad("year 1 1 9;;", 1, 11);
         bad(" \n", 1, 2);
+        bad(" ", 1, 1);
+        bad("hear 1 1 9;", 1, 0);
+        bad("yeas 1 1 9;", 1, 0);
+        int place = SET.length();
+        bad(SET + "payz 1 1;", 1, place);
+        bad(SET + "paya 1 1;", 1, place);
+        bad(SET + "pay0 1 1;", 1, place);
+        bad(SET + "pay9 1 1;", 1, place);
+        bad(SET + "pay` 1 1;", 1, place + 3);
+        bad(SET + "pay{ 1 1;", 1, place + 3);
+        bad(SET + "pay/ 1 1;", 1, place + 3);
+        bad(SET + "pay: 1 1;", 1, place + 3);
+        good(SET + "pay 09 90;", 7);
     }
 
     private static void linesThatMustBe() {
@@ -255,7 +268,9 @@ public final class TextTest {
         }
         CHECKS.due("empty: DUE", desk.period(3, 7), 0);
         CHECKS.due("empty: CUT", desk.period(3, 8), 0);
+        CHECKS.due("empty: pay", desk.pay(0, 9), 0);
         CHECKS.due("empty: END", desk.refund(1, 1), -1);
+        CHECKS.due("empty: on END", desk.refund(0, 1), 8);
     }
 
     private static void line(String behindSet, int place) {

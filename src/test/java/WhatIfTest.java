@@ -95,6 +95,11 @@ public final class WhatIfTest {
         CHECKS.due("nothing to undo", desk.now(9), 0);
         CHECKS.due("of all", even("").latest(4000), 101);
         CHECKS.due("nothing to spare", even("pay 0 4000;").latest(99999), 400);
+        InstalmentDesk early = Checks.told(
+            "year 8000 0 9;period 0 1;period 1 2;period 2 3;period 3 4;share 0 100;rate 0 99;");
+        early.bar(0);
+        early.bar(2);
+        CHECKS.due("DUE on DAY 0", early.latest(8000), 0);
         CHECKS.due("a new object", new InstalmentDesk().latest(99999), 0);
         InstalmentDesk full = even("");
         for (int i = 0; i < 40; i++) {
