@@ -113,7 +113,7 @@ public final class InstalmentDesk {
         if (isRule(what)) {
             return year.sumBy(what, period);
         }
-        reckon();
+        asked.reckon(year, year.barred);
         switch (what) {
             case 3:
                 return asked.leastOf(period);
@@ -122,6 +122,7 @@ public final class InstalmentDesk {
             case 5:
                 return asked.instalment(period);
             case 6:
+                account.lay(year);
                 return account.costOf(period, year, asked);
             case 7:
                 return year.periods.first(period);
