@@ -853,7 +853,8 @@ public final class InstalmentDesk {
 
         private void checkStop(Tape tape) {
             boolean tooLong = tape.length > MOST_BYTES;
-            boolean linesLack = lines < LINES_THAT_MUST_BE && tape.length > 0;
+            // Without any line the text is an empty one, also where its bytes are blanks.
+            boolean linesLack = lines > 0 && lines < LINES_THAT_MUST_BE;
             if (tooLong || linesLack) {
                 fail(CANNOT_COME);
             }

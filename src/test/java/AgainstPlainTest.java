@@ -45,6 +45,9 @@ public final class AgainstPlainTest {
 
     private int tellText() {
         String text = random.nextInt(3) == 0 ? spoilt(goodText()) : goodText();
+        if (random.nextInt(15) == 0) {
+            text = Checks.padded(random.nextBoolean() ? "" : "\n", 1 + random.nextInt(30));
+        }
         if (random.nextInt(12) == 0 && text.length() < 830) {
             text = Checks.padded(text, Math.max(text.length(), 790 + random.nextInt(30)));
         }

@@ -195,7 +195,7 @@ final class PlainDesk {
         tape.reset();
         try {
             State read = new State();
-            int lines = text.isEmpty() ? 0 : read(text, read);
+            int lines = read(text, read);
             faultKind = 0;
             state = read;
             before.clear();
@@ -214,7 +214,7 @@ final class PlainDesk {
         int payments = 0;
         while (true) {
             if (!tokens.find() || tokens.start() >= stop) {
-                if (lines < 6 || text.length() > 800) {
+                if (lines != 0 && lines < 6 || text.length() > 800) {
                     throw new Fault(1, stop);
                 }
                 return lines;

@@ -14,6 +14,7 @@ public final class TextTest {
         numbersAhead();
         tooMany();
         tooLong();
+        blanksAlone();
         faultLeavesAll();
         newTextForgets();
         CHECKS.close("TextTest");
@@ -110,8 +111,6 @@ public final class TextTest {
         bad("year 1 year 9;", 1, 7);
         bad("year;", 1, 4);
         bad("year 1 1 9;;", 1, 11);
-        bad(" \n", 1, 2);
-        bad(" ", 1, 1);
         bad("hear 1 1 9;", 1, 0);
         bad("yeas 1 1 9;", 1, 0);
         int place = SET.length();
@@ -226,6 +225,34 @@ public final class TextTest {
         good(Checks.padded(SET, 792) + "pay 1 1;", 7);
     }
 
+    private static void blanksAlone() {
+        good(" ", 0);
+        good("\n", 0);
+        good(" \n", 0);
+        good(Checks.padded("", 800), 0);
+        good("\n".repeat(800), 0);
+        bad(Checks.padded("", 801), 1, 800);
+        bad(Checks.padded("", 840), 1, 800);
+        bad(Checks.padded("", 820) + "year", 1, 800);
+        bad(Checks.padded("", 798) + "year", 1, 800);
+        bad(" ;", 1, 1);
+        bad("\t", 1, 0);
+        bad(" \r", 1, 1);
+        bad("\0", 1, 0);
+        bad(" \n7", 1, 2);
+        bad(" year", 1, 5);
+        bad(" year ", 1, 6);
+        InstalmentDesk desk = Checks.told(Checks.YEAR);
+        desk.bar(1);
+        CHECKS.due("blanks behind 800 bytes", Checks.tell(desk, Checks.padded("", 801)), -801);
+        CHECKS.due("its FAULT", desk.fault(), 1);
+        CHECKS.due("BARRED stays", desk.now(8), 2);
+        CHECKS.due("PAYMENTS stay", desk.now(5), 2);
+        CHECKS.due("blanks alone", Checks.tell(desk, " \n "), 0);
+        CHECKS.due("no FAULT any more", desk.fault(), 0);
+        asAtFirst("blanks", desk);
+    }
+
     private static void faultLeavesAll() {
         InstalmentDesk desk = Checks.told(Checks.YEAR);
         desk.bar(1);
@@ -263,14 +290,24 @@ public final class TextTest {
         CHECKS.due("rate", desk.rate(499), 0);
         desk.bar(0);
         CHECKS.due("an empty TEXT", desk.text(), 0);
+        asAtFirst("empty", desk);
+    }
+
+    private static void asAtFirst(String name, InstalmentDesk desk) {
         for (int what = 0; what <= 10; what++) {
-            CHECKS.due("empty: now(" + what + ")", desk.now(what), 0);
+            CHECKS.due(name + ": now(" + what + ")", desk.now(what), 0);
         }
-        CHECKS.due("empty: DUE", desk.period(3, 7), 0);
-        CHECKS.due("empty: CUT", desk.period(3, 8), 0);
-        CHECKS.due("empty: pay", desk.pay(0, 9), 0);
-        CHECKS.due("empty: END", desk.refund(1, 1), -1);
-        CHECKS.due("empty: on END", desk.refund(0, 1), 8);
+        for (int period = 0; period < 4; period++) {
+            for (int what = 0; what < 10; what++) {
+                CHECKS.due(name + ": period(" + period + ", " + what + ")", desk.period(period, what), 0);
+            }
+        }
+        CHECKS.due(name + ": TAX", desk.tax(9999999), 0);
+        CHECKS.due(name + ": rate", desk.rate(499), 0);
+        CHECKS.due(name + ": undo", desk.undo(), -1);
+        CHECKS.due(name + ": pay", desk.pay(0, 9), 0);
+        CHECKS.due(name + ": END", desk.refund(1, 1), -1);
+        CHECKS.due(name + ": on END", desk.refund(0, 1), 8);
     }
 
     private static void line(String behindSet, int place) {
