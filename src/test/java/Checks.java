@@ -13,13 +13,20 @@ final class Checks {
 
     private int passed;
     private int failed;
+    // The document's words that the checks now look at; empty where a test tells no words.
+    private String words = "";
+
+    /** What follows looks at these words of the document: a check that fails tells them. */
+    void sentence(String documentWords) {
+        words = "[" + documentWords + "] ";
+    }
 
     void due(String call, long got, long want) {
         if (got == want) {
             passed++;
         } else {
             failed++;
-            System.out.println(call + " answered " + got + ", due is " + want);
+            System.out.println(words + call + " answered " + got + ", due is " + want);
         }
     }
 
@@ -28,7 +35,7 @@ final class Checks {
             passed++;
         } else {
             failed++;
-            System.out.println("not so: " + what);
+            System.out.println(words + "not so: " + what);
         }
     }
 
